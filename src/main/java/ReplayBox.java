@@ -774,7 +774,7 @@ public final class ReplayBox {
         }
 
         boolean hasRowPlace(int x, int i) {
-            return hasThing(x) && thingKinds[x] == IS_ROW && i >= 0 && i < sizes[x];
+            return x >= 0 && x < things && thingKinds[x] == IS_ROW && i >= 0 && i < sizes[x];
         }
 
         Held shelved(int x) {
@@ -883,12 +883,11 @@ public final class ReplayBox {
         }
 
         private int lockIn(int slot) {
-            boolean isLock = kinds[slot] == IS_LOCK || kinds[slot] == IS_GATE;
-            return isLock && hasThing(numbers[slot]) ? numbers[slot] : -1;
+            return kinds[slot] == IS_LOCK || kinds[slot] == IS_GATE ? numbers[slot] : -1;
         }
 
         private int gateIn(int slot) {
-            return kinds[slot] == IS_GATE ? lockIn(slot) : -1;
+            return kinds[slot] == IS_GATE ? numbers[slot] : -1;
         }
 
         private int hold(int slot, int kind, int number) {
@@ -925,7 +924,9 @@ public final class ReplayBox {
             thingKinds[x] = kind;
             sizes[x] = size;
             owners[x] = FREE;
-            return hold(slot, kind, x);
+            kinds[slot] = kind;
+            numbers[slot] = x;
+            return 0;
         }
 
         private int makeRow(int slot, int sizeSlot) {
@@ -992,7 +993,16 @@ public final class ReplayBox {
 
         private int own(int thread, int lock) {
             owners[lock] = thread;
-            return note(TOOK, lock);
+            mark = TOOK;
+            marked = lock;
+            return 0;
+        }
+
+        private int free(int lock) {
+            owners[lock] = FREE;
+            mark = LEFT;
+            marked = lock;
+            return 0;
         }
 
         private int leaveLock(int thread, int slot) {
@@ -1003,8 +1013,7 @@ public final class ReplayBox {
             if (owners[lock] != thread) {
                 return FAILS_FREE;
             }
-            owners[lock] = FREE;
-            return note(LEFT, lock);
+            return free(lock);
         }
 
         private int lieDown(int thread, int slot) {
@@ -1015,11 +1024,10 @@ public final class ReplayBox {
             if (owners[gate] != thread) {
                 return FAILS_FREE;
             }
-            owners[gate] = FREE;
             moods[thread] = ASLEEP;
             gates[thread] = gate;
             following = at[thread];
-            return note(LEFT, gate);
+            return free(gate);
         }
 
         private int rise(int thread) {
@@ -1040,7 +1048,8 @@ public final class ReplayBox {
                     moods[sleeper] = WOKEN;
                 }
             }
-            return note(WORDED, gate);
+            mark = WORDED;
+            return 0;
         }
 
         private int takeInput(int slot) {
@@ -1056,12 +1065,8 @@ public final class ReplayBox {
                 return FAILS_HELD;
             }
             moods[thread] = AWAKE;
-            return note(STARTED, thread);
-        }
-
-        private int note(int what, int which) {
-            mark = what;
-            marked = which;
+            mark = STARTED;
+            marked = thread;
             return 0;
         }
     }
@@ -1113,7 +1118,7 @@ public final class ReplayBox {
 
         private void goOn(Machine machine) {
             boolean goes = true;
-            while (goes && steps < STEPS) {
+            for (int n = 0; n < STEPS && goes; n++) {
                 int thread = machine.whoGoes(latestThread());
                 goes = thread >= 0 && advance(machine, thread);
             }
@@ -1356,8 +1361,9 @@ public final class ReplayBox {
     private static final class Search {
         final Program program;
         final Machine machine;
+        // Of the run made last, behind each number of steps: a bit for each THREAD that could go on instead.
         final int[] rivals = new int[STEPS];
-        // Of the run that CHANGE 0, or 1, is put into: who could go on instead behind each number of steps.
+        // The same of the run that CHANGE 0, or 1, is put into, and how many steps that one has.
         final int[][] openings = new int[FIND_CHANGES][STEPS];
         final int[] openingEnds = new int[FIND_CHANGES];
         final int[] changeSteps = new int[FIND_CHANGES];
@@ -1365,7 +1371,6 @@ public final class ReplayBox {
         int changes;
         int steps;
         int failure;
-        int limit;
         int made;
         boolean hit;
 
@@ -1375,56 +1380,64 @@ public final class ReplayBox {
         }
 
         int look(int mostChanges, int mostRuns) {
-            limit = mostRuns;
-            made = 1;
             changes = 0;
+            made = 1;
             goThrough();
-            hit = failure > 0;
             saveOpenings(0);
-            for (int wanted = 1; wanted <= mostChanges && !hit; wanted++) {
-                hit = vary(0, wanted);
+            for (int wanted = 1; wanted <= mostChanges && failure == 0; wanted++) {
+                changes = wanted;
+                putAhead(0, 1);
+                openingEnds[1] = 0;
+                while (made < mostRuns && failure == 0 && putChanges()) {
+                    made++;
+                    goThrough();
+                }
             }
+            hit = failure != 0;
             return hit ? made : 0;
         }
 
-        // Depth is which, below FIND_CHANGES.
-        private boolean vary(int which, int wanted) {
-            int from = which == 0 ? 1 : changeSteps[0] + 1;
-            for (int k = from; k < openingEnds[which]; k++) {
-                for (int thread = 0; thread < THREADS; thread++) {
-                    if ((openings[which][k] >> thread & 1) == 0) {
-                        continue;
-                    }
-                    if (made >= limit) {
-                        return false;
-                    }
-                    changeSteps[which] = k;
-                    changeThreads[which] = thread;
-                    changes = which + 1;
-                    if (changes == wanted ? fails() : variesFurther(wanted)) {
-                        return true;
-                    }
+        // The next CHANGES in the order told; false: there are none more.
+        private boolean putChanges() {
+            if (changes == 1) {
+                return moveOn(0);
+            }
+            for (int n = 0; n < STEPS * THREADS; n++) {
+                if (moveOn(1)) {
+                    return true;
                 }
+                if (!moveOn(0)) {
+                    return false;
+                }
+                // With its one CHANGE this run was made and counted before; now it only shows where a second can be.
+                changes = 1;
+                goThrough();
+                changes = 2;
+                saveOpenings(1);
+                putAhead(1, changeSteps[0] + 1);
             }
             return false;
         }
 
-        private boolean fails() {
-            made++;
-            goThrough();
-            return failure > 0;
+        // Ahead of all THREADS behind so many steps, so that moving on finds the first of them.
+        private void putAhead(int which, int behindSteps) {
+            changeSteps[which] = behindSteps;
+            changeThreads[which] = -1;
         }
 
-        // This run was made and counted when its number of CHANGES was wanted; now it only shows where the next one
-        // can be put.
-        private boolean variesFurther(int wanted) {
-            int which = changes;
-            if (which >= FIND_CHANGES) {
-                return false;
+        private boolean moveOn(int which) {
+            int from = changeThreads[which] + 1;
+            for (int k = changeSteps[which]; k < openingEnds[which]; k++) {
+                for (int thread = from; thread < THREADS; thread++) {
+                    if (((openings[which][k] >> thread) & 1) != 0) {
+                        changeSteps[which] = k;
+                        changeThreads[which] = thread;
+                        return true;
+                    }
+                }
+                from = 0;
             }
-            goThrough();
-            saveOpenings(which);
-            return vary(which, wanted);
+            return false;
         }
 
         private void saveOpenings(int which) {
