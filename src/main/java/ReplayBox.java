@@ -838,11 +838,9 @@ public final class ReplayBox {
                 case PUT:
                     return putCell(Math.floorMod(a, CELLS), slotB);
                 case ADD:
-                    return bothNumbers(slotA, slotB) ? hold(slotA, IS_NUMBER, numbers[slotA] + numbers[slotB]) : FAILS_KIND;
                 case LESS:
-                    return bothNumbers(slotA, slotB) ? hold(slotA, IS_NUMBER, numbers[slotA] - numbers[slotB]) : FAILS_KIND;
                 case TIMES:
-                    return bothNumbers(slotA, slotB) ? hold(slotA, IS_NUMBER, numbers[slotA] * numbers[slotB]) : FAILS_KIND;
+                    return reckon(program.parts[first], slotA, slotB);
                 case GO:
                     return goTo(a);
                 case UNLESS:
@@ -904,6 +902,16 @@ public final class ReplayBox {
         private int putCell(int cell, int slot) {
             writtenPlace = cell;
             return hold(cell, kinds[slot], numbers[slot]);
+        }
+
+        private int reckon(int op, int slot, int slot2) {
+            if (!bothNumbers(slot, slot2)) {
+                return FAILS_KIND;
+            }
+            int x = numbers[slot];
+            int y = numbers[slot2];
+            int result = op == ADD ? x + y : op == LESS ? x - y : x * y;
+            return hold(slot, IS_NUMBER, result);
         }
 
         private int goTo(int instruction) {

@@ -102,6 +102,9 @@ public final class FindTest {
         due.is("runs made", box.found(6), 1);
         due.is("two runs", box.find(1, 2), 0);
         due.is("runs made", box.found(6), 2);
+        box = Programs.box("GO 0");
+        due.is("a LONG run alone", box.find(2, 100), 0);
+        due.is("runs made", box.found(6), 1);
         ReplayBox longest = Programs.box("SET 0 98; SET 1 1; START 1; LESS 0 1; UNLESS 0 6; GO 3; SET 2 1; SET 2 2; SET 2 3; "
                 + "SET 3 1; PUT 0 3", "GET 0 0; UNLESS 0 1; FAIL 0 1");
         due.is("it FAILS only behind 300 steps", longest.find(0, 100), 0);

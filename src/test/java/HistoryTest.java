@@ -14,6 +14,7 @@ public final class HistoryTest {
         aheadByGate();
         races();
         racesOfMany();
+        racesOfLongRuns();
         differences();
         due.close();
     }
@@ -217,6 +218,25 @@ public final class HistoryTest {
             due.is("race(" + i + ", 2)", box.race(i, 2), want[i][1]);
             due.is("race(" + i + ", 3)", box.race(i, 3), want[i][2]);
         }
+    }
+
+    // Four THREADS of PUT and GO, 9 TURNS of 4 PUTS each; behind these THREAD 3, which went last, has 4 PUTS more.
+    private static void racesOfLongRuns() {
+        ReplayBox box = Programs.box("START 1; START 2; START 3; SET 0 1; PUT 9 0; GO 4", "PUT 9 0; GO 0",
+                "PUT 9 0; GO 0", "PUT 9 0; GO 0");
+        box.turn(0, 4);
+        for (int k = 0; k < 36; k++) {
+            box.turn(k % 4, 8);
+        }
+        due.is("LONG", box.run(), 3);
+        due.is("THREAD 3 goes on", box.step(300, 0), 3);
+        int pairs = 3 * 36 * 36 + 3 * 36 * 40;
+        due.is("all pairs of PUTS of two THREADS", box.race(0, 0), pairs);
+        due.is("the last one's later step", box.race(pairs - 1, 2), 299);
+        due.is("its earlier step: THREAD 2's last PUT", box.race(pairs - 1, 1), 283);
+        due.is("ahead(1, 300)", box.ahead(1, 300), 1);
+        due.is("ahead(299, 300)", box.ahead(299, 300), 1);
+        due.is("ahead(283, 300)", box.ahead(283, 300), 0);
     }
 
     private static void differences() {

@@ -133,6 +133,8 @@ public final class RunTest {
         due.is("12 THINGS", box.told(4), 12);
         due.is("they are room enough", box.told(0), 0);
         due.is("the last one's number", box.value(0, 3, 1), 11);
+        box = Programs.ran(twelve.replace("LOCK 3 1", "SET 1 16; ROW 3 1") + "SET 1 15; WRITE 3 1 1");
+        due.is("the last THING may be the longest ROW", box.place(11, 15), 15);
         due.is("ROOM of a ROW", failure(twelve + "ROW 0 1"), 3);
         due.is("ROOM of a LOCK", failure(twelve + "LOCK 0"), 3);
         due.is("SIZE ahead of ROOM", failure(twelve + "SET 1 -1; ROW 0 1"), 2);
