@@ -22,6 +22,7 @@ public final class ReplayBox {
     private static final int ELEMENTS = 60;
     private static final int FIND_CHANGES = 2;
     private static final int FIND_RUNS = 100;
+    private static final int NO_OPENINGS = -1;
 
     private static final int SET = 0;
     private static final int GET = 1;
@@ -1369,9 +1370,8 @@ public final class ReplayBox {
     private static final class Search {
         final Program program;
         final Machine machine;
-        // Of the run made last, behind each number of steps: a bit for each THREAD that could go on instead.
-        final int[] rivals = new int[STEPS];
-        // The same of the run that CHANGE 0, or 1, is put into, and how many steps that one has.
+        // Of the run that CHANGE 0, or 1, is put into, behind each number of steps: a bit for each THREAD that could go
+        // on instead; and how many steps that run has.
         final int[][] openings = new int[FIND_CHANGES][STEPS];
         final int[] openingEnds = new int[FIND_CHANGES];
         final int[] changeSteps = new int[FIND_CHANGES];
@@ -1390,15 +1390,14 @@ public final class ReplayBox {
         int look(int mostChanges, int mostRuns) {
             changes = 0;
             made = 1;
-            goThrough();
-            saveOpenings(0);
+            goThrough(0);
             for (int wanted = 1; wanted <= mostChanges && failure == 0; wanted++) {
                 changes = wanted;
                 putAhead(0, 1);
                 openingEnds[1] = 0;
                 while (made < mostRuns && failure == 0 && putChanges()) {
                     made++;
-                    goThrough();
+                    goThrough(NO_OPENINGS);
                 }
             }
             hit = failure != 0;
@@ -1419,9 +1418,8 @@ public final class ReplayBox {
                 }
                 // With its one CHANGE this run was made and counted before; now it only shows where a second can be.
                 changes = 1;
-                goThrough();
+                goThrough(1);
                 changes = 2;
-                saveOpenings(1);
                 putAhead(1, changeSteps[0] + 1);
             }
             return false;
@@ -1448,20 +1446,21 @@ public final class ReplayBox {
             return false;
         }
 
-        private void saveOpenings(int which) {
-            System.arraycopy(rivals, 0, openings[which], 0, STEPS);
-            openingEnds[which] = steps;
-        }
-
-        private void goThrough() {
+        // A run with the CHANGES; its openings for CHANGE which are kept, unless nobody will ask for them.
+        private void goThrough(int which) {
             machine.begin(program, program.inputCount);
             int thread = machine.whoGoes(0);
             failure = 0;
             for (steps = 0; steps < STEPS && thread >= 0 && failure == 0; steps++) {
-                rivals[steps] = machine.rivalsOf(thread);
+                if (which != NO_OPENINGS) {
+                    openings[which][steps] = machine.rivalsOf(thread);
+                }
                 thread = chosen(thread);
                 failure = machine.go(thread);
                 thread = machine.whoGoes(thread);
+            }
+            if (which != NO_OPENINGS) {
+                openingEnds[which] = steps;
             }
         }
 
