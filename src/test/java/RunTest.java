@@ -365,6 +365,7 @@ public final class RunTest {
         due.is("a START that FAILS is none", Programs.ran("START 0").step(1, 5), 0);
         due.is("a TAKE that FAILS is none", Programs.ran("LOCK 0; TAKE 0; TAKE 0").step(3, 5), 0);
         due.is("a WAIT that FAILS is none", Programs.ran("LOCK 0 1; WAIT 0").step(2, 5), 0);
+        due.is("a WORD that FAILS is none", Programs.ran("LOCK 0 1; WORD 0").step(2, 5), 0);
         box = Programs.ran("SET 0 2; ROW 1 0; READ 2 1 0");
         due.is("a READ that FAILS reads none", box.step(3, 3), -2);
         box = Programs.ran("SET 0 2; ROW 1 0; WRITE 1 0 0");
