@@ -136,7 +136,8 @@ final class Edges {
         }
         Matcher matcher = stretches.matcher(left);
         while (matcher.find()) {
-            faults.add("no test quotes, of " + (promise == TERMS ? "the Terms" : "promise " + promise) + ": " + matcher.group());
+            faults.add("no test quotes, of " + (promise == TERMS ? "the Terms" : "promise " + promise) + ": "
+                    + matcher.group());
         }
     }
 

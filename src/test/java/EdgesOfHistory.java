@@ -104,12 +104,21 @@ final class EdgesOfHistory {
         span(least, LEAST, 0, 2, 300);
         span(least, 0, 0, 0, 1);
         span(Programs.ran(""), 0, 0, 0, 0);
+        ReplayBox first = Programs.box("PUT 11 0; SET 0 7; PUT 11 0");
+        first.cell(11, 7);
+        first.run();
+        span(first, 7, 0, 0, 0);
+        span(first, 0, 0, 1, 2);
+        span(first, 7, 1, 3, 3);
 
         edge.sentence(22, "what 0 how many SPANS there are, 1 the first s, 2 the last one of SPAN i, from 0.");
         edge.all("when(11, 5, #, 0)", 2, i -> box.when(11, 5, i, 0), LEAST, -1, 0, 2, LARGEST);
         edge.is("SPANS of 6", box.when(11, 6, 0, 0), 2);
         edge.all("when(11, #, 0, 0)", 0, v -> box.when(11, v, 0, 0), LEAST, -1, 0, 4, 7, LARGEST);
         edge.is("SPANS of CELL 0", box.when(0, 0, 0, 0), 1);
+        edge.is("SPANS of a run of no steps", Programs.ran("").when(11, 0, 0, 0), 1);
+        edge.is("SPANS that are 0 alone, and the last step alone", first.when(11, 7, 0, 0), 2);
+        edge.is("SPANS between them", first.when(11, 0, 0, 0), 1);
         ReplayBox most = Programs.ran("SET 0 1; PUT 0 0; PUT 0 1; GO 1");
         edge.is("the most SPANS of 1", most.when(0, 1, 0, 0), 100);
         edge.is("the most SPANS of 0, with the one at first", most.when(0, 0, 0, 0), 101);
@@ -200,7 +209,8 @@ final class EdgesOfHistory {
 
     private void differ() {
         edge.sentence(25, "How many CELLS, LOCALS of THREADS, and next INSTRUCTIONS of THREADS are other behind step s than behind step t.");
-        ReplayBox box = Programs.ran("SET 0 1; SET 3 2; PUT 0 0; PUT 11 3; START 3; SET 0 0; SET 3 0", "", "", "SET 3 1; GO 0");
+        ReplayBox box = Programs.ran("SET 0 1; SET 3 2; PUT 0 0; PUT 11 3; START 3; SET 0 0; SET 3 0", "", "",
+                "SET 3 1; GO 0");
         edge.is("a LOCAL, and the next INSTRUCTION", box.differ(0, 1), 2);
         edge.is("the same back", box.differ(1, 0), 2);
         edge.is("CELL 0, and the next INSTRUCTION", box.differ(2, 3), 2);
@@ -212,14 +222,18 @@ final class EdgesOfHistory {
         edge.is("where all is again as it was", box.differ(8, 10), 0);
         edge.all("differ(#, #)", 0, s -> box.differ(s, s), 0, 1, 300);
         edge.is("two CELLS, a LOCAL, the next INSTRUCTIONS of two", box.differ(0, 300), 5);
-        ReplayBox most = Programs.ran("START 1; START 2; START 3; SET 1 1; ADD 0 1; SET 2 1; SET 3 1; PUT 0 0; PUT 1 0; PUT 2 0; PUT 3 0; "
-                + "PUT 4 0; PUT 5 0; PUT 6 0; PUT 7 0; PUT 8 0; PUT 9 0; PUT 10 0; PUT 11 0", "SET 0 1; SET 1 1; SET 2 1; SET 3 1",
-                "SET 0 1; SET 1 1; SET 2 1; SET 3 1", "SET 0 1; SET 1 1; SET 2 1; SET 3 1");
+        String locals = "SET 0 1; SET 1 1; SET 2 1; SET 3 1";
+        StringBuilder puts = new StringBuilder("START 1; START 2; START 3; " + locals);
+        for (int cell = 0; cell <= 11; cell++) {
+            puts.append("; PUT ").append(cell).append(" 0");
+        }
+        ReplayBox most = Programs.ran(puts.toString(), locals, locals, locals);
         edge.is("all of them", most.differ(0, most.told(1)), 12 + 16 + 4);
         edge.is("ENDED is another than a next INSTRUCTION", Programs.ran("GO -1").differ(0, 1), 1);
 
         edge.sentence(25, "(THINGS are the same if their numbers are.)");
-        ReplayBox things = Programs.ran("LOCK 0; LOCK 0; SET 2 2; ROW 1 2; PUT 0 1; SET 2 1; WRITE 1 2 2; TAKE 0; PUT 0 0");
+        ReplayBox things = Programs.ran("LOCK 0; LOCK 0; SET 2 2; ROW 1 2; PUT 0 1; SET 2 1; WRITE 1 2 2; "
+                + "TAKE 0; PUT 0 0");
         edge.is("NUMBER 0 and THING 0", things.differ(0, 1), 2);
         edge.is("THING 0 and THING 1", things.differ(1, 2), 2);
         edge.is("a ROW that is written", things.differ(6, 7), 1);

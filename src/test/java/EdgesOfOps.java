@@ -16,8 +16,7 @@ final class EdgesOfOps {
     private static final int FREE = 6;
     private static final int NONE = 7;
     // THINGS 0 to 11; LOCAL 0 is a NUMBER, 1 a LOCK, 2 a GATE, 3 a ROW of 0.
-    private static final String TWELVE = "LOCK 1; LOCK 1; LOCK 1; LOCK 1; LOCK 1; LOCK 1; LOCK 1; LOCK 1; LOCK 1; LOCK 1; "
-            + "LOCK 2 1; ROW 3 0; ";
+    private static final String TWELVE = "LOCK 1; ".repeat(10) + "LOCK 2 1; ROW 3 0; ";
     private final Edges edge;
 
     private EdgesOfOps(Edges edge) {
@@ -223,7 +222,8 @@ final class EdgesOfOps {
         edge.is("C is a ROW", failure(rowOf(3) + "SET 1 0; WRITE 0 1 0"), KIND);
         edge.is("B is a LOCK", failure(rowOf(3) + "LOCK 1; WRITE 0 1 2"), KIND);
         edge.is("C is a LOCK", failure(rowOf(3) + "SET 1 0; LOCK 2; WRITE 0 1 2"), KIND);
-        ReplayBox two = Programs.ran(rowOf(16) + "ROW 3 1; SET 1 15; SET 2 6; WRITE 0 1 2; SET 1 0; SET 2 7; WRITE 3 1 2");
+        ReplayBox two = Programs.ran(rowOf(16)
+                + "ROW 3 1; SET 1 15; SET 2 6; WRITE 0 1 2; SET 1 0; SET 2 7; WRITE 3 1 2");
         edge.is("the last place of one ROW", two.place(0, 15), 6);
         edge.is("the first place of the next one", two.place(1, 0), 7);
     }
@@ -256,7 +256,8 @@ final class EdgesOfOps {
         edge.is("its own GATE", failure("LOCK 0 1; TAKE 0; TAKE 0"), HELD);
         edge.is("one that it had, and left", failure("LOCK 0; TAKE 0; LEAVE 0; TAKE 0"), 0);
         for (String gate : new String[] {"LOCK 0", "LOCK 0 1"}) {
-            ReplayBox box = Programs.ran(gate + "; PUT 0 0; TAKE 0; START 3; LEAVE 0; SET 1 1", "", "", "GET 0 0; TAKE 0");
+            ReplayBox box = Programs.ran(gate + "; PUT 0 0; TAKE 0; START 3; LEAVE 0; SET 1 1", "", "",
+                    "GET 0 0; TAKE 0");
             edge.is("it is THREAD 3's own", box.thing(0, 1), 3);
             box.to(3);
             edge.is("it is THREAD 0's own", box.thing(0, 1), 0);
@@ -265,6 +266,18 @@ final class EdgesOfOps {
             edge.is("THREAD 3 is STUCK at it", box.run(), 1);
             edge.is("it can't go", box.thread(3, 1), 2);
         }
+        ReplayBox others = Programs.ran("LOCK 0; LOCK 3 1; PUT 0 3; TAKE 3 0 0; START 1; LEAVE 3 0 0; TAKE 0 3 3",
+                "GET 2 0; TAKE 2 0 1");
+        edge.is("A alone is taken, whatever B and C are", others.told(0), 0);
+        others.to(5);
+        edge.is("the one that is taken", others.thing(1, 1), 0);
+        edge.is("the one that isn't", others.thing(0, 1), -2);
+        others.turn(0, 5);
+        others.turn(1, 9);
+        others.run();
+        others.to(6);
+        edge.is("it can't go at A, whatever B and C are", others.thread(1, 1), 2);
+        edge.is("the next step is THREAD 0's", others.step(7, 0), 0);
     }
 
     private void leave() {
@@ -292,6 +305,9 @@ final class EdgesOfOps {
         edge.is("the THREAD is ASLEEP", box.thread(0, 1), 3);
         edge.is("the same INSTRUCTION is next", box.thread(0, 0), 2);
         edge.is("as the last one of its THREAD, too", Programs.ran("LOCK 0 1; TAKE 0; WAIT 0").thread(0, 0), 2);
+        ReplayBox others = Programs.ran("LOCK 0 1; LOCK 2 1; TAKE 0; TAKE 2; WAIT 2 0 0");
+        edge.is("A alone is free, whatever B and C are", others.thing(1, 1), -2);
+        edge.is("the other one isn't", others.thing(0, 1), 0);
     }
 
     private static ReplayBox sleepers() {
@@ -312,6 +328,7 @@ final class EdgesOfOps {
         edge.is("its own LOCK that is no GATE", failure("LOCK 0; TAKE 0; WORD 0"), KIND);
         edge.is("a free GATE", failure("LOCK 0 1; WORD 0"), FREE);
         edge.is("another one's", failure("LOCK 0 1; PUT 0 0; TAKE 0; START 1", "GET 0 0; WORD 0"), FREE);
+        edge.is("A alone counts, whatever B and C are", failure("LOCK 2 1; TAKE 2; WORD 2 0 1"), 0);
         edge.is("nobody is ASLEEP", Programs.ran("LOCK 0 1; TAKE 0; WORD 0; SET 1 4").value(0, 1, 1), 4);
         ReplayBox box = sleepers();
         box.to(15);
@@ -397,7 +414,8 @@ final class EdgesOfOps {
 
     private void next() {
         edge.sentence(TERMS, "What isn't told otherwise goes on with the next INSTRUCTION; one below 0, or above 23, there is not.");
-        ReplayBox box = Programs.ran("SET 0 1; LOCK 1; TAKE 1; LEAVE 1; SET 2 1; UNLESS 2 0; START 1; ADD 0 2; PUT 0 0; GET 0 0");
+        ReplayBox box = Programs.ran("SET 0 1; LOCK 1; TAKE 1; LEAVE 1; SET 2 1; UNLESS 2 0; START 1; ADD 0 2; "
+                + "PUT 0 0; GET 0 0");
         for (int s = 0; s <= 9; s++) {
             box.to(s);
             edge.is("behind step " + s, box.thread(0, 0), s);
@@ -426,8 +444,9 @@ final class EdgesOfOps {
         edge.is("the last as told", failure("FAIL 0 9"), 19);
         edge.sentence(TERMS, "An INSTRUCTION that FAILS is a step, too (and changes nothing).");
         String made = "SET 1 2; ROW 0 1; LOCK 2; LOCK 3 1; ";
-        for (String op : new String[] {"ADD 0 1", "UNLESS 0 0", "ROW 1 0", "READ 1 0 1", "WRITE 0 1 1", "TAKE 0", "LEAVE 2",
-            "WAIT 3", "WORD 3", "INPUT 1", "START 0", "FAIL 0 0"}) {
+        String[] ops = {"ADD 0 1", "UNLESS 0 0", "ROW 1 0", "READ 1 0 1", "WRITE 0 1 1", "TAKE 0", "LEAVE 2", "WAIT 3",
+            "WORD 3", "INPUT 1", "START 0", "FAIL 0 0"};
+        for (String op : ops) {
             ReplayBox box = Programs.ran(made + op + "; SET 1 9");
             edge.is(op + " FAILS", box.told(0), 2);
             edge.is(op + " is a step", box.told(1), 5);

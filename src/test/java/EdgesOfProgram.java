@@ -341,13 +341,18 @@ final class EdgesOfProgram {
         edge.is("of none", box.freely(), 0);
         box.turn(0, 1);
         edge.is("of one", box.freely(), 1);
-        for (int k = 1; k <= 40; k++) {
+        for (int k = 0; k < 40; k++) {
             box.turn(k % 2, 2);
         }
         edge.is("of 40", box.freely(), 40);
         edge.is("again", box.freely(), 0);
         box.run();
         edge.is("no CHANGE without TURNS", box.told(5), 0);
-        edge.is("the first TURN anew", box.turn(1, 1), 1);
+        edge.is("the first TURN anew", box.turn(0, 2), 1);
+        box.run();
+        edge.is("no CHANGE with it alone", box.told(5), 0);
+        edge.is("the second TURN anew", box.turn(1, 2), 2);
+        box.run();
+        edge.is("one CHANGE with both", box.told(5), 1);
     }
 }

@@ -4,8 +4,8 @@ import java.util.function.Supplier;
 import java.util.function.ToIntFunction;
 
 /**
- * The Terms' sentences on refusals. Each refused call is made on a new box, and then all that the box answers must be what
- * one answers that was made likewise, but without that call.
+ * The Terms' sentences on refusals. Each refused call is made on a new box, and then all that the box answers must be
+ * what one answers that was made likewise, but without that call.
  */
 final class EdgesOfRefusals {
     private static final int LEAST = Edges.LEAST;
@@ -68,11 +68,13 @@ final class EdgesOfRefusals {
         }
     }
 
-    // It has THINGS of all KINDS, four CHANGES, two INPUTS that are taken and one that isn't, RACES and a FAILURE to find.
+    // Its run has THINGS of all KINDS, four CHANGES, two of three INPUTS, and RACES; find() FINDS another one.
     private static ReplayBox told() {
         ReplayBox box = Programs.box(
-                "LOCK 0 1; SET 1 2; ROW 2 1; PUT 0 0; PUT 1 2; LOCK 3; START 1; START 2; INPUT 1; PUT 5 1; SET 1 0; PUT 5 1; TAKE 0; LEAVE 0",
-                "GET 0 1; SET 1 1; WRITE 0 1 1; GET 2 6; PUT 6 1; INPUT 3", "GET 0 5; UNLESS 0 3; FAIL 0 6; GET 1 0; TAKE 1; LEAVE 1");
+                "LOCK 0 1; SET 1 2; ROW 2 1; PUT 0 0; PUT 1 2; LOCK 3; START 1; START 2; INPUT 1; PUT 5 1; "
+                        + "SET 1 0; PUT 5 1; TAKE 0; LEAVE 0",
+                "GET 0 1; SET 1 1; WRITE 0 1 1; GET 2 6; PUT 6 1; INPUT 3",
+                "GET 0 5; UNLESS 0 3; FAIL 0 6; GET 1 0; TAKE 1; LEAVE 1");
         box.input(1);
         box.input(2);
         box.input(3);
@@ -104,8 +106,11 @@ final class EdgesOfRefusals {
     }
 
     private static ReplayBox full() {
-        ReplayBox box = Programs.box("LOCK 0; ".repeat(11) + "LOCK 1 1; START 1; START 2; START 3; GO 16; INPUT 0; PUT 5 0; GO 16" + "; SET 0 1".repeat(5),
-                "SET 0 1; PUT 6 0; " + "SET 1 2; ".repeat(22), "GET 0 6; " + "SET 1 2; ".repeat(23), "SET 1 2; ".repeat(24));
+        ReplayBox box = Programs.box(
+                "LOCK 0; ".repeat(11) + "LOCK 1 1; START 1; START 2; START 3; GO 16; INPUT 0; PUT 5 0; GO 16"
+                        + "; SET 0 1".repeat(5),
+                "SET 0 1; PUT 6 0; " + "SET 1 2; ".repeat(22), "GET 0 6; " + "SET 1 2; ".repeat(23),
+                "SET 1 2; ".repeat(24));
         for (int k = 0; k < 30; k++) {
             box.input(k);
         }

@@ -17,15 +17,23 @@ final class EdgesOfRuns {
         edges.schedule();
         edges.behindTheSchedule();
         edges.over();
+        edges.overLong();
         edges.record();
         edges.places();
         edges.ahead();
+        edges.aheadByLocks();
+        edges.aheadByOthers();
         edges.races();
         edges.run();
         edges.told();
+        edges.toldCounts();
         edges.change();
         edges.step();
-        edges.play();
+        edges.playKnown();
+        edges.playSteps();
+        edges.playTold();
+        edges.playOn();
+        edges.playEnds();
         edges.playRefusals();
         edges.ended();
     }
@@ -38,8 +46,8 @@ final class EdgesOfRuns {
 
     private void canGo() {
         edge.sentence(TERMS, "A RUN goes step by step. A THREAD CAN GO if it is STARTED, hasn't ENDED, is not ASLEEP, and nothing is told by which it can't.");
-        ReplayBox box = Programs.box("LOCK 0 1; PUT 0 0; START 1; START 2; TAKE 0; FAIL", "GET 0 0; TAKE 0; WAIT 0", "GET 0 0; TAKE 0",
-                "SET 0 1");
+        ReplayBox box = Programs.box("LOCK 0 1; PUT 0 0; START 1; START 2; TAKE 0; FAIL", "GET 0 0; TAKE 0; WAIT 0",
+                "GET 0 0; TAKE 0", "SET 0 1");
         box.turn(0, 4);
         box.turn(1, 3);
         box.turn(2, 1);
@@ -52,7 +60,7 @@ final class EdgesOfRuns {
         edge.is("THREAD 3, not STARTED", box.thread(3, 1), 0);
         box.to(8);
         edge.is("THREAD 2, at a LOCK that is free", box.thread(2, 1), 1);
-        edge.is("one at a LOCK that is its own CAN GO, and FAILS", Programs.ran("LOCK 0; TAKE 0; TAKE 0").thread(0, 1), 1);
+        edge.is("one at its own LOCK CAN GO, and FAILS", Programs.ran("LOCK 0; TAKE 0; TAKE 0").thread(0, 1), 1);
         edge.is("one at INPUT without INPUTS CAN GO, and FAILS", Programs.ran("INPUT 0").thread(0, 1), 1);
         edge.is("one that has ENDED", Programs.ran("END").thread(0, 1), 4);
     }
@@ -79,14 +87,15 @@ final class EdgesOfRuns {
         some.turn(0, 1);
         some.turn(1, 1);
         some.run();
-        // Gone: TURN 1, it isn't STARTED; TURN 3, too; of 4 all but two, it ENDS; of 5 all but one, the LOCK; 7, it has ENDED.
+        // Gone: TURNS 1 and 3, not STARTED; of 4 all but two, ENDED; of 5 all but one, the LOCK; 7, ENDED.
         edge.rows("TURNS of those that can't", Programs.stepThreads(some), 0, 0, 0, 0, 0, 1, 1, 2, 0, 0);
         edge.is("THREAD 2 is STUCK", some.told(0), 1);
     }
 
     private void behindTheSchedule() {
         edge.sentence(TERMS, "Behind the last one, or without any: who went last (at first THREAD 0) goes as long as it CAN; then the least one that CAN, and so on.");
-        String[] threads = {"START 1; START 2; START 3; SET 0 1; SET 0 2", "SET 0 1; SET 0 2", "SET 0 1; SET 0 2", "SET 0 1"};
+        String[] threads = {"START 1; START 2; START 3; SET 0 1; SET 0 2", "SET 0 1; SET 0 2", "SET 0 1; SET 0 2",
+                "SET 0 1"};
         ReplayBox box = Programs.box(threads);
         box.run();
         edge.rows("without any", Programs.stepThreads(box), 0, 0, 0, 0, 0, 1, 1, 2, 2, 3);
@@ -102,18 +111,18 @@ final class EdgesOfRuns {
         box.turn(3, 1);
         box.turn(3, 5);
         box.run();
-        edge.rows("who had a TURN and couldn't go didn't go last", Programs.stepThreads(box), 0, 0, 0, 3, 0, 0, 1, 1, 2, 2);
+        edge.rows("who couldn't go in the last TURN", Programs.stepThreads(box), 0, 0, 0, 3, 0, 0, 1, 1, 2, 2);
         ReplayBox atFirst = Programs.box("SET 0 1; START 1", "SET 0 1");
         atFirst.turn(1, 9);
         atFirst.run();
         edge.rows("at first THREAD 0", Programs.stepThreads(atFirst), 0, 0, 1);
-        ReplayBox again = Programs.box("LOCK 0; PUT 0 0; TAKE 0; START 1; START 2; LEAVE 0; SET 1 1", "GET 0 0; TAKE 0; LEAVE 0",
-                "SET 1 1; SET 1 2");
+        ReplayBox again = Programs.box("LOCK 0; PUT 0 0; TAKE 0; START 1; START 2; LEAVE 0; SET 1 1",
+                "GET 0 0; TAKE 0; LEAVE 0", "SET 1 1; SET 1 2");
         again.turn(0, 5);
         again.turn(1, 1);
         again.run();
-        edge.rows("then the least goes on, also when the other CAN again", Programs.stepThreads(again), 0, 0, 0, 0, 0, 1, 0, 0,
-                1, 1, 2, 2);
+        edge.rows("the least goes on, also when the other CAN again", Programs.stepThreads(again), 0, 0, 0, 0, 0, 1,
+                0, 0, 1, 1, 2, 2);
     }
 
     private void over() {
@@ -132,8 +141,11 @@ final class EdgesOfRuns {
         edge.sentence(TERMS, "2 FAILED;");
         edge.is("at the first step", Programs.box("FAIL").run(), 2);
         edge.is("at step 300", Programs.box(STEPS_299 + "FAIL").run(), 2);
-        edge.is("while others are STUCK", Programs.box("LOCK 0; PUT 0 0; TAKE 0; START 1; FAIL", "GET 0 0; TAKE 0").run(), 2);
+        edge.is("while others are STUCK", Programs.box("LOCK 0; PUT 0 0; TAKE 0; START 1; FAIL",
+                "GET 0 0; TAKE 0").run(), 2);
+    }
 
+    private void overLong() {
         edge.sentence(TERMS, "3 LONG: 300 steps are done, and a THREAD CAN still GO (2 ahead of it).");
         ReplayBox box = Programs.ran(STEPS_299);
         edge.is("299 steps", box.told(1), 299);
@@ -150,7 +162,8 @@ final class EdgesOfRuns {
         box = Programs.ran(STEPS_299 + "SET 3 1; FAIL");
         edge.is("a FAIL that would be step 301", box.told(0), 3);
         edge.is("it is no FAILURE", box.told(2), 0);
-        box = Programs.ran("START 1; " + STEPS_299.replace("GO 3", "GO 4").replace("UNLESS 0 6", "UNLESS 0 7"), "SET 0 1");
+        box = Programs.ran("START 1; " + STEPS_299.replace("GO 3", "GO 4").replace("UNLESS 0 6", "UNLESS 0 7"),
+                "SET 0 1");
         edge.is("300 steps of THREAD 0", box.step(300, 0), 0);
         edge.is("another THREAD CAN still GO", box.told(0), 3);
         box = Programs.box("START 1; GO 1", "GO 0");
@@ -168,8 +181,8 @@ final class EdgesOfRuns {
 
     // STEPS_299 with a LOCK that THREAD 1 waits for; THREAD 0 is DONE at step 299, THREAD 1's GET is step 300.
     private static int stuckBehind300() {
-        ReplayBox box = Programs.ran("SET 0 97; SET 1 1; LOCK 2; PUT 0 2; TAKE 2; START 1; LESS 0 1; UNLESS 0 9; GO 6; SET 3 1; SET 3 2; "
-                + "SET 3 3", "GET 0 0; TAKE 0");
+        ReplayBox box = Programs.ran("SET 0 97; SET 1 1; LOCK 2; PUT 0 2; TAKE 2; START 1; LESS 0 1; "
+                + "UNLESS 0 9; GO 6; SET 3 1; SET 3 2; SET 3 3", "GET 0 0; TAKE 0");
         return box.told(1) == 300 && box.step(300, 0) == 1 ? box.told(0) : -99;
     }
 
@@ -218,7 +231,8 @@ final class EdgesOfRuns {
         edge.is("place 0 of THING 0, written", first.step(4, 4), 100);
         edge.is("place 0 of THING 0, read", first.step(5, 3), 100);
         edge.is("place 15 of THING 0", first.step(7, 4), 115);
-        ReplayBox last = Programs.ran("LOCK 0; ".repeat(11) + "SET 1 16; ROW 0 1; SET 1 0; WRITE 0 1 1; SET 1 15; WRITE 0 1 1; READ 2 0 1");
+        ReplayBox last = Programs.ran("LOCK 0; ".repeat(11)
+                + "SET 1 16; ROW 0 1; SET 1 0; WRITE 0 1 1; SET 1 15; WRITE 0 1 1; READ 2 0 1");
         edge.is("place 0 of THING 11", last.step(15, 4), 320);
         edge.is("place 15 of THING 11, written", last.step(17, 4), 335);
         edge.is("place 15 of THING 11, read", last.step(18, 3), 335);
@@ -250,7 +264,9 @@ final class EdgesOfRuns {
         edge.is("of two THREADS, back", box.ahead(3, 4), 0);
         ReplayBox many = Programs.ran("GO 0");
         edge.is("the first of 300 and the last", many.ahead(1, 300), 1);
+    }
 
+    private void aheadByLocks() {
         edge.sentence(TERMS, "s leaves a LOCK (LEAVE, or WAIT that lies down) and t takes the same THING (TAKE, or behind a WAIT);");
         ReplayBox locks = lockSteps();
         edge.is("LEAVE and TAKE", locks.ahead(8, 11), 1);
@@ -258,11 +274,17 @@ final class EdgesOfRuns {
         edge.is("LEAVE and what is ahead of TAKE", locks.ahead(8, 10), 0);
         edge.is("what is behind LEAVE and TAKE", locks.ahead(9, 11), 0);
         ReplayBox other = lockSteps();
+        edge.is("LEAVE and TAKE of one LOCK, in a run ahead of another", other.ahead(8, 11), 1);
         other.turn(0, 9);
         other.turn(2, 3);
         other.run();
         edge.is("LEAVE and TAKE of another LOCK", other.ahead(8, 11), 0);
         edge.is("TAKE and TAKE", other.ahead(7, 12), 0);
+        edge.is("what is behind LEAVE and another THREAD's first step", other.ahead(9, 10), 0);
+        ReplayBox last = Programs.ran("LOCK 0; ".repeat(11) + "LOCK 0 1; PUT 0 0; START 1; TAKE 0; LEAVE 0; SET 1 1",
+                "GET 0 0; TAKE 0; LEAVE 0");
+        edge.is("LEAVE and TAKE of THING 11", last.ahead(16, 19), 1);
+        edge.is("what is behind LEAVE and TAKE of THING 11", last.ahead(17, 20), 0);
         ReplayBox gates = gateSteps();
         edge.is("WAIT that lies down and TAKE", gates.ahead(6, 8), 1);
         edge.is("WAIT that lies down and what is ahead of TAKE", gates.ahead(6, 7), 0);
@@ -272,7 +294,11 @@ final class EdgesOfRuns {
         hands.run();
         edge.is("WAIT that lies down and behind a WAIT", hands.ahead(9, 10), 1);
         edge.is("the first WAIT and the last step", hands.ahead(5, 300), 1);
+    }
 
+    private void aheadByOthers() {
+        ReplayBox locks = lockSteps();
+        ReplayBox gates = gateSteps();
         edge.sentence(TERMS, "s is a WORD that wakes a THREAD and t that one's step behind its WAIT;");
         edge.is("WORD and behind the WAIT", gates.ahead(9, 12), 1);
         edge.is("WORD and what is behind that", gates.ahead(9, 13), 1);
@@ -298,7 +324,8 @@ final class EdgesOfRuns {
     // 18 LEAVE; 2 at 19 GET, 20 TAKE of the other LOCK, 21.
     private static ReplayBox lockSteps() {
         return Programs.ran("LOCK 0; LOCK 1; PUT 0 0; PUT 1 1; START 1; START 2; TAKE 0; LEAVE 0; SET 2 1",
-                "GET 0 0; TAKE 0; SET 2 1; LEAVE 0; TAKE 0; LEAVE 0; GET 1 1; TAKE 1; LEAVE 1", "GET 0 1; TAKE 0; SET 2 1");
+                "GET 0 0; TAKE 0; SET 2 1; LEAVE 0; TAKE 0; LEAVE 0; GET 1 1; TAKE 1; LEAVE 1",
+                "GET 0 1; TAKE 0; SET 2 1");
     }
 
     // THREAD 0 is at steps 1 to 3; 1 at 4 GET, 5 TAKE, 6 WAIT; 0 at 7, 8 TAKE, 9 WORD, 10 LEAVE, 11; 1 at 12, 13.
@@ -314,7 +341,8 @@ final class EdgesOfRuns {
 
     private void races() {
         edge.sentence(TERMS, "A RACE: two steps s before t of two THREADS, on one PLACE, one of them writes it, and s isn't AHEAD of t.");
-        ReplayBox box = Programs.ran("PUT 0 0; START 1; PUT 0 0; GET 0 1; PUT 2 0; GET 0 3; PUT 0 0", "PUT 0 0; GET 1 1; GET 1 2; PUT 3 0; PUT 4 0");
+        ReplayBox box = Programs.ran("PUT 0 0; START 1; PUT 0 0; GET 0 1; PUT 2 0; GET 0 3; PUT 0 0",
+                "PUT 0 0; GET 1 1; GET 1 2; PUT 3 0; PUT 4 0");
         // THREAD 0 is at steps 1 to 7, 1 at 8 to 12. No RACE: 1 and 8 by START, 4 and 9 both read, 3 and 7 one THREAD.
         int[][] want = {{3, 8, 0}, {7, 8, 0}, {5, 10, 2}, {6, 11, 3}};
         edge.is("how many", box.race(0, 0), want.length);
@@ -323,14 +351,16 @@ final class EdgesOfRuns {
             edge.is("t of RACE " + i, box.race(i, 2), want[i][1]);
             edge.is("PLACE of RACE " + i, box.race(i, 3), want[i][2]);
         }
-        ReplayBox locked = Programs.ran("LOCK 0; PUT 0 0; START 1; TAKE 0; PUT 1 0; LEAVE 0; PUT 1 0", "GET 0 0; TAKE 0; PUT 1 0");
+        ReplayBox locked = Programs.ran("LOCK 0; PUT 0 0; START 1; TAKE 0; PUT 1 0; LEAVE 0; PUT 1 0",
+                "GET 0 0; TAKE 0; PUT 1 0");
         edge.is("by a LOCK, but for what is behind LEAVE", locked.race(0, 0), 1);
         edge.is("that one", locked.race(0, 1), 7);
         String shared = "SET 1 2; ROW 0 1; PUT 0 0; START 1; SET 1 0; WRITE 0 1 1";
         edge.is("two places of one ROW", Programs.ran(shared, "GET 0 0; SET 1 1; WRITE 0 1 1").race(0, 0), 0);
         edge.is("one place of one ROW", Programs.ran(shared, "GET 0 0; SET 1 0; READ 2 0 1").race(0, 3), 100);
-        edge.is("both read one place", Programs.ran(shared.replace("WRITE 0 1 1", "READ 2 0 1"), "GET 0 0; SET 1 0; READ 2 0 1").race(0, 0), 0);
-        edge.is("a WRITE that FAILS is on no PLACE", Programs.ran(shared, "GET 0 0; SET 1 2; WRITE 0 1 1").race(0, 0), 0);
+        edge.is("both read one place", Programs.ran(shared.replace("WRITE 0 1 1", "READ 2 0 1"),
+                "GET 0 0; SET 1 0; READ 2 0 1").race(0, 0), 0);
+        edge.is("a WRITE that FAILS has no PLACE", Programs.ran(shared, "GET 0 0; SET 1 2; WRITE 0 1 1").race(0, 0), 0);
         edge.is("one THREAD alone", Programs.ran("PUT 0 0; GET 0 0; PUT 0 0").race(0, 0), 0);
     }
 
@@ -396,6 +426,12 @@ final class EdgesOfRuns {
         edge.is("the FAILURE", fails.told(2), 19);
         edge.is("its THREAD", fails.told(3), 3);
         edge.is("the THREAD of the first step's", Programs.ran("FAIL").told(3), 0);
+        // 299 steps of THREAD 0: START, two SETS, 98 rounds without the last GO, three SETS.
+        ReplayBox last = Programs.ran("START 2; SET 0 98; SET 1 1; LESS 0 1; UNLESS 0 6; GO 3; SET 3 1; "
+                + "SET 3 1; SET 3 1", "", "FAIL 0 8");
+        edge.is("the FAILURE of step 300", last.told(2), 18);
+        edge.is("it is step 300", last.told(1), 300);
+        edge.is("the THREAD of step 300's", last.told(3), 2);
         for (String without : new String[] {"", "LOCK 0 1; TAKE 0; WAIT 0", "GO 0"}) {
             edge.is("without", Programs.ran(without).told(2), 0);
             edge.is("without, its THREAD", Programs.ran(without).told(3), -1);
@@ -404,7 +440,9 @@ final class EdgesOfRuns {
         fails.run();
         edge.is("without, behind one with", fails.told(2), 0);
         edge.is("without, behind one with, its THREAD", fails.told(3), -1);
+    }
 
+    private void toldCounts() {
         edge.sentence(9, "4 THINGS made,");
         edge.is("none", Programs.ran("SET 0 1").told(4), 0);
         edge.is("all", Programs.ran("LOCK 0; GO 0").told(4), 12);
@@ -463,7 +501,8 @@ final class EdgesOfRuns {
 
     private void step() {
         edge.sentence(11, "Of step s (1 ..): 0 THREAD, 1 INSTRUCTION, 2 OP, 3 the PLACE that it read, 4 wrote (-2: none),");
-        ReplayBox box = Programs.ran("START 3; GET 0 11; PUT 11 0; SET 0 1;" + "SET 0 1;".repeat(19) + "END", "", "", "SET 0 1");
+        ReplayBox box = Programs.ran("START 3; GET 0 11; PUT 11 0; SET 0 1;" + "SET 0 1;".repeat(19) + "END", "", "",
+                "SET 0 1");
         int[][] want = {{0, 0, 17, -2, -2}, {0, 1, 1, 11, -2}, {0, 2, 2, -2, 11}};
         for (int s = 1; s <= 3; s++) {
             for (int what = 0; what <= 4; what++) {
@@ -508,14 +547,15 @@ final class EdgesOfRuns {
 
     // Its CHANGES: behind 2 steps THREAD 1, behind 6 THREAD 0.
     private static ReplayBox twoChanges() {
-        ReplayBox box = Programs.box("START 1; SET 0 1; SET 0 2; SET 0 3; SET 0 4", "SET 0 1; SET 0 2; SET 0 3; SET 0 4");
+        ReplayBox box = Programs.box("START 1; SET 0 1; SET 0 2; SET 0 3; SET 0 4",
+                "SET 0 1; SET 0 2; SET 0 3; SET 0 4");
         box.turn(0, 2);
         box.turn(1, 4);
         box.run();
         return box;
     }
 
-    private void play() {
+    private void playKnown() {
         edge.sentence(12, "THE RECORD, of which only the first n CHANGES and m INPUTS are known, is gone by with the program as it is now (CELLS at first, too):");
         ReplayBox inputs = Programs.box("INPUT 0; PUT 0 0; GO 0");
         for (int k = 1; k <= 30; k++) {
@@ -540,7 +580,9 @@ final class EdgesOfRuns {
         played("CELL 11 as it is now", cells, 0, 0, 3, 3);
         cells.clear(0);
         played("INSTRUCTIONS as they are now: none", cells, 0, 0, 0, 0);
+    }
 
+    private void playSteps() {
         edge.sentence(12, "how many steps could be done till there is none more, or 300:");
         ReplayBox box = Programs.ran("");
         played("none", box, 0, 0, 0, 0);
@@ -554,7 +596,9 @@ final class EdgesOfRuns {
         hands.run();
         played("all 74 CHANGES", hands, 74, 0, 300, 4);
         played("half of them", hands, 37, 0, 300, 4);
+    }
 
+    private void playTold() {
         edge.sentence(12, "up to the step of the last CHANGE that is known the THREAD goes that the latest CHANGE told (at first 0),");
         ReplayBox two = twoChanges();
         put(two, 1, "SET 0 1; SET 0 2; SET 0 3; SET 0 4; FAIL");
@@ -564,7 +608,9 @@ final class EdgesOfRuns {
         put(two, 0, "START 1; SET 0 1; FAIL");
         played("behind 2 steps THREAD 1 goes, though 0 CAN", two, 2, 0, 7, 3);
         played("at first THREAD 0", two, 0, 0, 3, 3);
+    }
 
+    private void playOn() {
         edge.sentence(12, "from there on that one as long as it CAN, then the least one that CAN, and so on;");
         ReplayBox three = Programs.box("START 1; START 2; SET 0 1", "SET 0 1; SET 0 2", "SET 0 1; SET 0 2");
         three.turn(0, 2);
@@ -580,9 +626,11 @@ final class EdgesOfRuns {
         played("then THREAD 1", three, 1, 0, 6, 3);
         three.turn(1, 9);
         played("TURNS are none of it", three, 1, 0, 6, 3);
+    }
 
+    private void playEnds() {
         edge.sentence(12, "it ends where a THREAD that is told can't go, where an INPUT that isn't known is asked for, and where a step FAILS (which counts).");
-        two = twoChanges();
+        ReplayBox two = twoChanges();
         put(two, 1, "SET 0 1; SET 0 2; SET 0 3");
         played("THREAD 1 is told a fourth step, and has ENDED", two, 2, 0, 5, 1);
         played("it isn't told one", two, 1, 0, 8, 0);

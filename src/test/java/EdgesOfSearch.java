@@ -54,12 +54,15 @@ final class EdgesOfSearch {
         searched("one who isn't STARTED can't", Programs.box("SET 0 1; SET 0 2", "FAIL"), 2, 100, 0, 1);
         searched("behind the last step there is none", Programs.box("SET 0 1; START 1", "SET 0 1"), 2, 100, 0, 1);
         searched("behind 1 step, where the run has 3", Programs.box("START 1; SET 0 1", "SET 0 1"), 1, 100, 0, 2);
-        searched("behind 1 and 2 steps, where it has 4", Programs.box("START 1; SET 0 1; SET 0 2", "SET 0 1"), 1, 100, 0, 3);
+        ReplayBox two = Programs.box("START 1; SET 0 1; SET 0 2", "SET 0 1");
+        searched("behind 1 and 2 steps, where it has 4", two, 1, 100, 0, 3);
         ReplayBox locked = Programs.box("LOCK 0; PUT 0 0; TAKE 0; START 1; SET 1 1", "GET 0 0; TAKE 0");
         searched("one at a LOCK can't: its GET alone can be first", locked, 2, 100, 0, 2);
-        ReplayBox goesOn = Programs.box("START 1; SET 0 1; PUT 0 0", "GET 0 0; GET 1 0; ADD 0 1; UNLESS 0 5; END; FAIL 0 6");
+        ReplayBox goesOn = Programs.box("START 1; SET 0 1; PUT 0 0",
+                "GET 0 0; GET 1 0; ADD 0 1; UNLESS 0 5; END; FAIL 0 6");
         searched("the other one goes on: it GETS 0 twice", goesOn, 1, 100, 2, 2);
-        searched("LONG: behind 1 to 99 of 300 steps, and no more runs", Programs.box("START 1; GO 1", "GO 0"), 1, 100, 0, 100);
+        ReplayBox endless = Programs.box("START 1; GO 1", "GO 0");
+        searched("LONG: behind 1 to 99 of 300 steps, and no more runs", endless, 1, 100, 0, 100);
         ReplayBox last = Programs.box(STEPS_296 + "SET 3 1; SET 3 1; START 1; SET 3 1; SET 3 1", "FAIL");
         searched("LONG: without a CHANGE it doesn't FAIL", last, 0, 100, 0, 1);
         searched("LONG: behind 299 steps", last, 1, 100, 2, 2);
@@ -90,7 +93,7 @@ final class EdgesOfSearch {
 
         edge.sentence(26, "then with two: the first CHANGE likewise, for each the second one likewise (behind more steps).");
         ReplayBox two = twice();
-        // With one: behind 1 to 4 steps. With two: of (1, 1) behind 2, 3, 4; of (2, 1) behind 3, 4, 5; of (3, 1) behind 4.
+        // One: behind 1 to 4 steps. Two: of (1, 1) behind 2, 3, 4; of (2, 1) behind 3, 4, 5; of (3, 1) behind 4.
         searched("the seventh with two", two, 2, 100, 1 + 4 + 3 + 3 + 1, 12);
         foundIs("that one", two, 2, 3, 1, 4, 0, 19);
         ReplayBox small = Programs.box("START 1; SET 0 1; SET 0 2", "SET 0 1; SET 0 2");
@@ -114,16 +117,21 @@ final class EdgesOfSearch {
         searched("number 100", failsBehind(99), 1, 100, 100, 100);
         searched("number 101 isn't made", failsBehind(100), 1, 100, 0, 100);
         searched("no INSTRUCTIONS", new ReplayBox(), 2, 100, 0, 1);
+        ReplayBox again = twice();
+        for (int runs = 1; runs <= 12; runs++) {
+            searched("one more than ahead", again, 2, runs, runs == 12 ? 12 : 0, runs);
+            searched("all that are needed, behind it", again, 2, 100, 12, 12);
+        }
     }
 
-    // Step n of THREAD 0 makes CELL 0 1, a later one 0 again; THREAD 1, which FAILS by a 1, is STARTED by the first step.
+    // Step n makes CELL 0 1, a later one 0 again; THREAD 1, which FAILS by a 1, is STARTED by the first step.
     private static ReplayBox failsBehind(int n) {
         int rounds = (n - 5) / 3;
         int filling = (n - 5) % 3;
         int loop = 3 + filling;
-        return Programs.box("START 1; SET 0 " + rounds + "; SET 1 1; " + "SET 2 1; ".repeat(filling) + "LESS 0 1; UNLESS 0 "
-                + (loop + 3) + "; GO " + loop + "; SET 3 1; SET 3 1; PUT 0 1; SET 3 1; SET 2 0; PUT 0 2",
-                "GET 0 0; UNLESS 0 3; FAIL");
+        return Programs.box("START 1; SET 0 " + rounds + "; SET 1 1; " + "SET 2 1; ".repeat(filling)
+                + "LESS 0 1; UNLESS 0 " + (loop + 3) + "; GO " + loop
+                + "; SET 3 1; SET 3 1; PUT 0 1; SET 3 1; SET 2 0; PUT 0 2", "GET 0 0; UNLESS 0 3; FAIL");
     }
 
     private void nothingElse() {

@@ -26,7 +26,8 @@ final class EdgesOfShelves {
 
     // THINGS 0 a ROW of 2, 1 a LOCK, 2 a GATE, 3 a ROW of 0.
     private static ReplayBox things() {
-        return Programs.ran("SET 1 2; ROW 0 1; LOCK 2; LOCK 3 1; SET 1 0; ROW 0 1; START 3", "", "", "SET 0 1; SET 0 2");
+        return Programs.ran("SET 1 2; ROW 0 1; LOCK 2; LOCK 3 1; SET 1 0; ROW 0 1; START 3", "", "",
+                "SET 0 1; SET 0 2");
     }
 
     // SHELVES: 0 to 3 THINGS 0 to 3, 4 four bytes, 5 four ints, 6 six bytes, 7 nothing.
@@ -131,8 +132,8 @@ final class EdgesOfShelves {
 
     // 59 steps of THREAD 0, then the rest of THREAD 1.
     private static ReplayBox ofSteps(int steps) {
-        ReplayBox box = Programs.box("START 1; SET 0 18; SET 1 1; SET 2 1; LESS 0 1; UNLESS 0 7; GO 4; SET 3 1; SET 3 1",
-                "SET 0 1; ".repeat(steps - 59));
+        ReplayBox box = Programs.box("START 1; SET 0 18; SET 1 1; SET 2 1; LESS 0 1; UNLESS 0 7; GO 4; SET 3 1; "
+                + "SET 3 1", "SET 0 1; ".repeat(steps - 59));
         box.run();
         return box;
     }
@@ -255,6 +256,9 @@ final class EdgesOfShelves {
         edge.is("bytes", box.copy(1, 3, 2, 57, 3), 3);
         edge.is("byte 57", box.element(2, 57), 1);
         edge.is("byte 59", box.element(2, 59), 3);
+        edge.is("a byte to the first place", box.copy(1, 5, 2, 0, 1), 1);
+        edge.is("byte 0", box.element(2, 0), 3);
+        edge.is("byte 1", box.element(2, 1), 0);
         edge.is("bytes forward onto themselves", box.copy(1, 2, 1, 3, 3), 3);
         edge.rows("as they all were before", all(box, 1, 6), 0, 0, 0, 0, 1, 2);
         box.make(3, BYTES, 60);
@@ -298,7 +302,8 @@ final class EdgesOfShelves {
         edge.all("copy(4, 0, 6, #, 0)", -13, j -> box.copy(4, 0, 6, j, 0), LEAST, -1, 7, LARGEST);
         edge.all("copy(6, 0, 4, 0, #)", -13, n -> box.copy(6, 0, 4, 0, n), 5, 6);
         edge.all("copy(4, 1, 6, 0, #)", -13, n -> box.copy(4, 1, 6, 0, n), 4, LARGEST);
-        edge.all("copy(4, #, 6, #, #), whose sums wrap", -13, n -> box.copy(4, n, 6, n, n), LEAST, LARGEST, LARGEST / 2 + 1);
+        edge.all("copy(4, #, 6, #, #), whose sums wrap", -13, n -> box.copy(4, n, 6, n, n), LEAST, LARGEST,
+                LARGEST / 2 + 1);
         edge.is("just not beyond", box.copy(4, 1, 6, 3, 3), 3);
         edge.is("just beyond the other's end", box.copy(4, 1, 6, 4, 3), -13);
         edge.is("ints, too", box.copy(5, 4, 5, 0, 1), -13);

@@ -126,8 +126,8 @@ final class EdgesOfView {
 
     private void thing() {
         edge.sentence(17, "In THE VIEW, of THING x: 0 KIND (as above), 1 how many places a ROW has, whose own a LOCK is (-2: it is free).");
-        ReplayBox box = Programs.ran("SET 1 16; ROW 0 1; ROW 0 2; LOCK 0; LOCK 3 1; PUT 0 3; TAKE 0; START 3; SET 1 1", "", "",
-                "GET 0 0; TAKE 0");
+        ReplayBox box = Programs.ran("SET 1 16; ROW 0 1; ROW 0 2; LOCK 0; LOCK 3 1; PUT 0 3; TAKE 0; START 3; "
+                + "SET 1 1", "", "", "GET 0 0; TAKE 0");
         edge.is("KIND of a ROW", box.thing(0, 0), 1);
         edge.is("places of 16", box.thing(0, 1), 16);
         edge.is("places of 0", box.thing(1, 1), 0);
@@ -160,7 +160,8 @@ final class EdgesOfView {
 
     private void place() {
         edge.sentence(18, "In THE VIEW: the NUMBER at place i of ROW x.");
-        String row = "SET 1 16; ROW 0 1; LOCK 3; ROW 3 2; SET 1 15; SET 2 " + LEAST + "; WRITE 0 1 2; SET 1 0; WRITE 0 1 2";
+        String row = "SET 1 16; ROW 0 1; LOCK 3; ROW 3 2; SET 1 15; SET 2 " + LEAST
+                + "; WRITE 0 1 2; SET 1 0; WRITE 0 1 2";
         ReplayBox box = Programs.ran(row);
         edge.is("place 0", box.place(0, 0), LEAST);
         edge.is("place 1", box.place(0, 1), 0);
@@ -202,8 +203,8 @@ final class EdgesOfView {
         edge.is("THREAD 0 at first", box.thread(0, 0), 0);
 
         edge.sentence(19, "1: 0 it isn't STARTED, 1 CAN GO, 2 can't, 3 ASLEEP, 4 has ENDED.");
-        ReplayBox all = Programs.box("LOCK 0 1; PUT 0 0; START 1; START 2; TAKE 0; END", "GET 0 0; TAKE 0; WAIT 0", "GET 0 0; TAKE 0",
-                "SET 0 1");
+        ReplayBox all = Programs.box("LOCK 0 1; PUT 0 0; START 1; START 2; TAKE 0; END", "GET 0 0; TAKE 0; WAIT 0",
+                "GET 0 0; TAKE 0", "SET 0 1");
         all.turn(0, 4);
         all.turn(1, 3);
         all.turn(2, 1);
