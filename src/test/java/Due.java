@@ -5,8 +5,27 @@ final class Due {
         int answer();
     }
 
+    // No call may fail to end; a test takes seconds, so one that still goes on then never will.
+    private static final int MOST_SECONDS = 600;
+
     private int checked;
     private int wrong;
+
+    Due() {
+        Thread watch = new Thread(Due::endLateTest);
+        watch.setDaemon(true);
+        watch.start();
+    }
+
+    private static void endLateTest() {
+        try {
+            Thread.sleep(MOST_SECONDS * 1000L);
+        } catch (InterruptedException stopped) {
+            return;
+        }
+        System.out.println("a call has not ended within " + MOST_SECONDS + " seconds");
+        Runtime.getRuntime().halt(1);
+    }
 
     void is(String call, int got, int want) {
         checked++;
