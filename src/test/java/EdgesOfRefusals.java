@@ -4,8 +4,8 @@ import java.util.function.Supplier;
 import java.util.function.ToIntFunction;
 
 /**
- * The Terms' sentences on refusals. Each refused call is made on a new box, and then all that the box answers must be
- * what one answers that was made likewise, but without that call.
+ * The Terms' sentences on refusals. Each refused call is made on a new box, and then what the box answers to a Probe
+ * must be what one answers that was made likewise, but without that call.
  */
 final class EdgesOfRefusals {
     private static final int LEAST = Edges.LEAST;

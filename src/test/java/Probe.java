@@ -3,9 +3,9 @@ import java.util.List;
 import java.util.function.Supplier;
 
 /**
- * All that a box answers, as rows of text: two boxes of which these are the same are in the same state. What can't be
- * asked (INSTRUCTIONS, INPUTS, TURNS) is seen by what the next run and the next calls do, so a probed box is used up;
- * each part has a new one, which keeps it below 512 calls.
+ * Answers of a box to some hundred calls of every kind, as rows of text, by which two boxes can be compared; of long
+ * runs the first steps alone. What can't be asked (INSTRUCTIONS, INPUTS, TURNS) is seen by what the next run and the
+ * next calls do, so a probed box is used up; each part has a new one, which keeps it below 512 calls.
  */
 final class Probe {
     private static final int MOST_STEPS = 30;
