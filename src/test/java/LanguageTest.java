@@ -6,7 +6,9 @@ import java.nio.file.Files;
 import java.nio.file.Path;
 import java.util.ArrayList;
 import java.util.List;
+import java.util.Map;
 import java.util.Set;
+import java.util.TreeMap;
 import java.util.TreeSet;
 import java.util.regex.Matcher;
 import java.util.regex.Pattern;
@@ -17,14 +19,26 @@ public final class LanguageTest {
 
     public static void main(String[] args) throws IOException {
         List<String> lines = Files.readAllLines(Path.of("src/main/java/ReplayBox.java"));
-        face(Files.readString(Path.of("../shared/DOC.md")));
+        Set<String> names = faceNames();
+        face(Files.readString(Path.of("../shared/DOC.md")), names);
         nestedClasses();
-        words(withoutComments(String.join("\n", lines)));
-        methodLengths(lines);
+        String text = withoutComments(String.join("\n", lines));
+        words(text);
+        methods(List.of(text.split("\n")), names);
         due.close();
     }
 
-    private static void face(String document) {
+    private static Set<String> faceNames() {
+        Set<String> names = new TreeSet<>();
+        for (Method method : ReplayBox.class.getDeclaredMethods()) {
+            if (!Modifier.isPrivate(method.getModifiers())) {
+                names.add(method.getName());
+            }
+        }
+        return names;
+    }
+
+    private static void face(String document, Set<String> names) {
         Set<String> promised = new TreeSet<>();
         Matcher lines = Pattern.compile("(?m)^    public int (\\w+)\\(([^)]*)\\)").matcher(document);
         while (lines.find()) {
@@ -33,11 +47,9 @@ public final class LanguageTest {
         }
         due.is("methods that the document promises", promised.size(), 32);
         Set<String> found = new TreeSet<>();
-        Set<String> names = new TreeSet<>();
         for (Method method : ReplayBox.class.getDeclaredMethods()) {
             if (!Modifier.isPrivate(method.getModifiers())) {
                 found.add(method.getName() + "/" + method.getParameterCount());
-                names.add(method.getName());
                 due.isText(method.getName(), Modifier.toString(method.getModifiers()), "public");
                 due.isText(method.getName(), method.getReturnType().getName(), "int");
             }
@@ -111,10 +123,11 @@ public final class LanguageTest {
         due.is("signs 0 to 127 alone", text.chars().allMatch(sign -> sign < 128) ? 1 : 0, 1);
     }
 
-    // A method begins at a line that ends with ") {" or a throws clause, indented as a member, and ends at the "}" there.
-    private static void methodLengths(List<String> lines) {
-        Pattern begin = Pattern.compile("^(    |        )(?!if|for|while|switch|else|do|try)\\w.*\\).*\\{$");
-        int methods = 0;
+    private static void methods(List<String> lines, Set<String> face) {
+        Map<String, String> bodies = new TreeMap<>();
+        // A method begins at a line that ends with "{", indented as a member, and ends at the "}" there.
+        Pattern begin = Pattern.compile("^(    |        )(?!if|for|while|switch|else|do|try)\\w.*?(\\w+)\\(.*\\).*\\{$");
+        int count = 0;
         for (int k = 0; k < lines.size(); k++) {
             Matcher matcher = begin.matcher(lines.get(k));
             if (!matcher.matches()) {
@@ -124,9 +137,42 @@ public final class LanguageTest {
             while (end < lines.size() && !lines.get(end).equals(matcher.group(1) + "}")) {
                 end++;
             }
-            methods++;
+            count++;
             due.is("at most 60 lines: " + lines.get(k).trim(), end - k + 1 <= 60 ? 1 : 0, 1);
+            // Those of one name are taken together: which of them is called can't be seen in the file.
+            bodies.merge(matcher.group(2), String.join("\n", lines.subList(k + 1, end)), String::concat);
         }
-        due.is("methods were looked at", methods > 100 ? 1 : 0, 1);
+        due.is("methods were looked at", count > 100 ? 1 : 0, 1);
+        depths(bodies, face);
+    }
+
+    private static void depths(Map<String, String> bodies, Set<String> face) {
+        int deepest = 0;
+        for (String name : face) {
+            due.is(name + " is in the file", bodies.containsKey(name) ? 1 : 0, 1);
+            int depth = depth(name, bodies, List.of());
+            due.is(name + " goes at most 8 calls deep", depth <= 8 ? depth : 8, depth);
+            deepest = Math.max(deepest, depth);
+        }
+        due.is("calls were followed", deepest > 4 ? 1 : 0, 1);
+    }
+
+    /** How many calls stand open at most, this one too. */
+    private static int depth(String name, Map<String, String> bodies, List<String> open) {
+        if (open.contains(name)) {
+            due.isText(name, "calls itself by " + open, "no recursion");
+            return 0;
+        }
+        List<String> opened = new ArrayList<>(open);
+        opened.add(name);
+        int inner = 0;
+        // A call of super goes to another method of the same name; the library's own calls are none of the file's.
+        Matcher calls = Pattern.compile("(?<!super\\.)(?<!Arrays\\.)\\b(\\w+)\\(").matcher(bodies.get(name));
+        while (calls.find()) {
+            if (bodies.containsKey(calls.group(1))) {
+                inner = Math.max(inner, depth(calls.group(1), bodies, opened));
+            }
+        }
+        return 1 + inner;
     }
 }

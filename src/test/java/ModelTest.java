@@ -1,39 +1,36 @@
-import java.util.ArrayList;
-import java.util.List;
-
 /** ReplayBox held against PlainBox: many programs and calls, made by a fixed row of numbers, so each time the same. */
 public final class ModelTest {
     private static final int BOXES = 1500;
     private static final int MOST_CALLS = 512;
 
-    private final Due due;
-    private final int number;
-    private final ReplayBox box = new ReplayBox();
-    private final PlainBox plain = new PlainBox();
-    private final List<String> history = new ArrayList<>();
-    private long state;
-    private boolean wrong;
+    private final Twins twins;
+    private final ReplayBox box;
+    private final PlainBox plain;
 
     private ModelTest(Due due, int number) {
-        this.due = due;
-        this.number = number;
-        this.state = 88172645463325252L + 7919L * number;
+        twins = new Twins(due, number);
+        box = twins.box;
+        plain = twins.plain;
     }
 
     public static void main(String[] args) {
         Due due = new Due();
         int boxes = args.length > 0 ? Integer.parseInt(args[0]) : BOXES;
         int[] overs = new int[4];
+        int[] ends = new int[5];
         int found = 0;
         int racing = 0;
         for (int k = 0; k < boxes; k++) {
             ModelTest test = new ModelTest(due, k);
             test.runAll();
-            if (test.box.told(0) >= 0) {
-                overs[test.box.told(0)]++;
-                racing += test.box.race(0, 0) > 0 ? 1 : 0;
+            if (test.plain.told(0) >= 0) {
+                overs[test.plain.told(0)]++;
+                racing += test.plain.race(0, 0) > 0 ? 1 : 0;
             }
-            found += test.box.found(0) > 0 ? 1 : 0;
+            if (test.plain.ended() >= 0) {
+                ends[test.plain.ended()]++;
+            }
+            found += test.plain.found(0) > 0 ? 1 : 0;
         }
         // A test that never reaches these would look at little.
         System.out.println("over: " + overs[0] + " DONE, " + overs[1] + " STUCK, " + overs[2] + " FAILED, " + overs[3]
@@ -41,52 +38,38 @@ public final class ModelTest {
         for (int over : overs) {
             due.is("some runs are over so", over > 0 ? 1 : 0, 1);
         }
+        for (int end : ends) {
+            due.is("some play() ended so", end > 0 ? 1 : 0, 1);
+        }
         due.is("some RACE", racing > 0 ? 1 : 0, 1);
         due.is("some are FOUND", found > 0 ? 1 : 0, 1);
         due.close();
     }
 
     private int random(int below) {
-        state ^= state << 13;
-        state ^= state >>> 7;
-        state ^= state << 17;
-        return (int) Long.remainderUnsigned(state, below);
+        return twins.random(below);
     }
 
-    /** Mostly a number from least to most, sometimes just beyond, seldom far beyond. */
     private int about(int least, int most) {
-        int kind = random(40);
-        if (kind == 0) {
-            return least - 1 - random(3);
-        }
-        if (kind == 1) {
-            return most + 1 + random(3);
-        }
-        if (kind == 2) {
-            return new int[] {Integer.MIN_VALUE, Integer.MAX_VALUE, -2, 0}[random(4)];
-        }
-        return most < least ? least : least + random(most - least + 1);
+        return twins.about(least, most);
     }
 
     private void check(String call, Due.Call got, Due.Call want) {
-        history.add(call);
-        String answer = Due.outcome(got);
-        String wanted = Due.outcome(want);
-        if (!answer.equals(wanted) && !wrong) {
-            wrong = true;
-            System.out.println("box " + number + ": " + String.join("; ", history));
-        }
-        due.isText("box " + number + ": " + call, answer, wanted);
+        twins.check(call, got, want);
+    }
+
+    private boolean mayAsk(int mostCalls) {
+        return twins.history.size() < mostCalls && !twins.wrong;
     }
 
     private void runAll() {
-        while (history.size() < MOST_CALLS - 130 && !wrong) {
+        while (mayAsk(MOST_CALLS - 130)) {
             writeProgram();
             for (int k = random(4); k > 0; k--) {
                 ask();
             }
-            check("run()", box::run, plain::run);
-            for (int k = 60 + random(160); k > 0 && history.size() < MOST_CALLS && !wrong; k--) {
+            twins.run();
+            for (int k = 60 + random(160); k > 0 && mayAsk(MOST_CALLS); k--) {
                 ask();
             }
         }
@@ -131,8 +114,7 @@ public final class ModelTest {
     }
 
     private void code(int thread, int op, int a, int b, int c) {
-        check("code(" + thread + ", " + op + ", " + a + ", " + b + ", " + c + ")", () -> box.code(thread, op, a, b, c),
-                () -> plain.code(thread, op, a, b, c));
+        twins.code(thread, op, a, b, c);
     }
 
     private void writePiece(int thread) {
@@ -200,7 +182,7 @@ public final class ModelTest {
     private void turn() {
         int thread = about(0, 3);
         int steps = random(3) == 0 ? about(1, 100) : 1 + random(9);
-        check("turn(" + thread + ", " + steps + ")", () -> box.turn(thread, steps), () -> plain.turn(thread, steps));
+        twins.turn(thread, steps);
     }
 
     private void ask() {
